@@ -45,7 +45,8 @@ public final class DiskArmSimulator {
     private static final int BY_DEADLINES = 6;
 
     private static final int NONE = -1;
-    private static final int NO_LIMIT = Integer.MAX_VALUE;
+    /** Far above every time and every key. */
+    private static final int NO_LIMIT = 1000000000;
 
     private static final int[] ZONE_SECTORS = {12, 10, 8, 6};
     private static final int[] ZONE_SECTOR_TICKS = {10, 12, 15, 20};
