@@ -1,3 +1,5 @@
+import java.util.function.Consumer;
+
 /** Counts what was asked and what was answered wrongly, and says the latter with its promise. */
 final class Check {
     interface Call {
@@ -6,12 +8,18 @@ final class Check {
 
     private int asked;
     private int wrong;
+    private String sentence = "";
+
+    /** The sentence of the document that the next checks look at; it is told with every wrong answer. */
+    void about(String words) {
+        sentence = " [" + words + "]";
+    }
 
     void due(int promise, String what, Object got, Object want) {
         asked++;
         if (!want.equals(got)) {
             wrong++;
-            System.out.println("promise " + promise + ": " + what + " answered " + got + ", due is " + want);
+            System.out.println("promise " + promise + sentence + ": " + what + " answered " + got + ", due is " + want);
         }
     }
 
@@ -31,6 +39,20 @@ final class Check {
             call.run();
             return "nothing thrown";
         });
+    }
+
+    /**
+     * The call throws, and an object that was asked for it answers all later calls like its twin: an object with the
+     * same past that was not asked.
+     */
+    void refused(int promise, String what, Class<? extends RuntimeException> want, Consumer<DiskArmSimulator> past,
+            Consumer<DiskArmSimulator> call) {
+        DiskArmSimulator one = new DiskArmSimulator();
+        past.accept(one);
+        throwingVoid(promise, what, want, () -> call.accept(one));
+        DiskArmSimulator twin = new DiskArmSimulator();
+        past.accept(twin);
+        due(promise, "what comes after " + what, Afterwards.of(one), Afterwards.of(twin));
     }
 
     void end() {
