@@ -30,6 +30,8 @@ public final class DiskBoundsTest {
         fifthSpare();
         orderOfRefusals();
         accessesOfPlaces();
+        accessesOfSpares();
+        leastAndGreatestAccessTime();
         check.end();
     }
 
@@ -142,11 +144,12 @@ public final class DiskBoundsTest {
     }
 
     private static void cylinders() {
-        check.about("IndexOutOfBoundsException if one of the cylinders does not exist");
+        check.about("There are 64 cylinders, numbered from 0, with one track each.");
         DiskArmSimulator x = fresh();
         check.due(7, "seekTime(0, 63)", x.seekTime(0, 63), 101);
         check.due(7, "seekTime(63, 0)", x.seekTime(63, 0), 101);
         check.due(7, "seekTime(63, 63)", x.seekTime(63, 63), 0);
+        check.about("IndexOutOfBoundsException if one of the cylinders does not exist");
         int[][] wrong = {{-1, 0}, {0, -1}, {64, 63}, {63, 64}, {-1, -1}, {64, 64}, {-1, 64},
             {Integer.MIN_VALUE, 0}, {0, Integer.MAX_VALUE}, {Integer.MAX_VALUE, Integer.MIN_VALUE}};
         for (int[] w : wrong) {
@@ -395,5 +398,41 @@ public final class DiskBoundsTest {
         x.submit(1, 571, 0);
         x.flush();
         check.due(14, "accessesOf(571) at its new place", x.accessesOf(571), 1);
+    }
+
+    private static void accessesOfSpares() {
+        check.about("The last four places, 572 to 575, are spare.");
+        DiskArmSimulator x = fresh();
+        takeSpares(x, 4);
+        for (int i = 0; i < 4; i++) {
+            x.submit(0, 100 * i, 0);
+            x.serve();
+            check.due(14, "accessesOf(" + 100 * i + ") behind a request", x.accessesOf(100 * i), 1);
+            check.due(16, "arm()", x.arm(), 63);
+        }
+        x.setWriteBack(true);
+        for (int i = 0; i < 4; i++) {
+            x.submit(1, 100 * i, 0);
+        }
+        x.flush();
+        for (int i = 0; i < 4; i++) {
+            check.due(14, "accessesOf(" + 100 * i + ") behind a flush", x.accessesOf(100 * i), 2);
+        }
+        check.due(37, "total(3)", x.total(3), 8);
+    }
+
+    /** At 84 a seek of 757 ticks ends at 841, a tick behind the angle 0. */
+    private static void leastAndGreatestAccessTime() {
+        check.about("Returns the number of ticks that an access to the place of a block would take now.");
+        DiskArmSimulator x = fresh();
+        x.setCurve(50, 20, 9);
+        check.due(12, "accessTime(0), a transfer alone", x.accessTime(0), 10);
+        Pasts.idleTo(x, 83);
+        check.due(12, "accessTime(570) without a wait", x.accessTime(570), 757 + 20);
+        x.idle(1);
+        check.due(12, "accessTime(570) with the longest wait", x.accessTime(570), 757 + 119 + 20);
+        x.submit(0, 570, 0);
+        x.serve();
+        check.due(15, "clock()", x.clock(), 84 + 896);
     }
 }

@@ -94,10 +94,11 @@ public final class GeometryTest {
     }
 
     private static void places() {
-        DiskArmSimulator x = new DiskArmSimulator();
         int[] sectors = {12, 10, 8, 6};
         int block = 0;
         for (int cylinder = 0; cylinder < 64; cylinder++) {
+            // A new object for each cylinder, as an object is used for at most 512 calls.
+            DiskArmSimulator x = new DiskArmSimulator();
             for (int sector = 0; sector < sectors[cylinder / 16] && block < 572; sector++) {
                 check.due(8, "placeOf(" + block + ")", x.placeOf(block), block);
                 check.due(9, "cylinderOf(" + block + ")", x.cylinderOf(block), cylinder);
@@ -107,8 +108,7 @@ public final class GeometryTest {
                 block++;
             }
         }
-        check.due(9, "cylinderOf(571)", x.cylinderOf(571), 63);
-        check.due(10, "sectorOf(571)", x.sectorOf(571), 1);
+        check.due(9, "the number of blocks", block, 572);
     }
 
     private static void angles() {

@@ -6,7 +6,7 @@ import java.util.Random;
 
 /** Long runs of calls, drawn with fixed seeds, on the class and on NaiveDisk: each pair of answers must be equal. */
 public final class ModelTest {
-    private static final int RUNS = 400;
+    private static final int RUNS = 600;
     private static final int CALLS = 512;
     private static final int[] ODD_NUMBERS = {Integer.MIN_VALUE, -1, 0, 1, 80, 571, 572, 10000, Integer.MAX_VALUE};
     private static final String[] TEXTS = {"r1", "w2@", "r571@9999", "w5,w9,r5", "r572,r3@50", "r1,,", "w77@400,r8@9",
@@ -40,7 +40,7 @@ public final class ModelTest {
     private boolean run() throws Exception {
         // Some runs begin so late that the clock passes 100000 in them.
         int idleCalls = lateStart ? 90 + below(10) : 0;
-        for (int i = 0; i < CALLS; i++) {
+        for (int i = 0; told.size() < CALLS; i++) {
             if (i < idleCalls ? !call("idle", 1000) : !drawAndCall()) {
                 told.subList(0, Math.max(0, told.size() - 40)).clear();
                 told.forEach(System.out::println);
@@ -178,6 +178,9 @@ public final class ModelTest {
     }
 
     private boolean call(String name, Object... arguments) throws Exception {
+        if (told.size() >= CALLS) {
+            return true;
+        }
         Object got = answer(disk, name, arguments);
         Object want = answer(naive, name, arguments);
         if (name.equals("submit") && want instanceof Integer) {

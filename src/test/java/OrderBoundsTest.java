@@ -13,6 +13,7 @@ public final class OrderBoundsTest {
         sevenPending();
         sixAgain();
         positions();
+        eachSearchAnew();
         orderOfRefusals();
         equalOrders();
         deadlinesDoNotCount();
@@ -124,6 +125,27 @@ public final class OrderBoundsTest {
         for (int wrong : new int[] {6, 7, Integer.MIN_VALUE, Integer.MAX_VALUE}) {
             check.refused(35, "bestRequest(" + wrong + ")", NO_INDEX, Pasts::rich, y -> y.bestRequest(wrong));
         }
+    }
+
+    /** Block 2 has the least access time; with the deadline of block 1 only block 1 is considered by policy 6. */
+    private static void eachSearchAnew() {
+        check.about("Returns a request of the order in which all pending requests are finished first");
+        DiskArmSimulator x = new DiskArmSimulator();
+        x.submit(0, 3, 0);
+        x.submit(0, 2, 0);
+        check.due(35, "bestRequest(0) before any other search", x.bestRequest(0), 1);
+        x.submit(0, 1, 9999);
+        check.due(35, "bestRequest(0) behind a submission", x.bestRequest(0), 2);
+        x.setPolicy(6);
+        x.cancel(2);
+        x.submit(0, 4, 9999);
+        check.due(24, "next()", x.next(), 3);
+        check.due(35, "bestRequest(0) behind next()", x.bestRequest(0), 1);
+        check.due(35, "bestRequest(2) behind next()", x.bestRequest(2), 3);
+        x.idle(25);
+        check.due(36, "canMeetDeadlines()", x.canMeetDeadlines(), true);
+        check.due(35, "bestRequest(0) when block 2 went by", x.bestRequest(0), 0);
+        check.due(35, "bestRequest(2) when block 2 went by", x.bestRequest(2), 1);
     }
 
     private static void orderOfRefusals() {

@@ -15,6 +15,7 @@ public final class PolicyBoundsTest {
         nextChangesNothing();
         equalByNumber();
         equalByDistance();
+        movedWhilePending();
         directionUp();
         directionDown();
         directionTurns();
@@ -195,18 +196,52 @@ public final class PolicyBoundsTest {
     }
 
     private static void equalByDistance() {
+        check.about("Policy 1 takes the one with the least distance.");
+        serves("policy 1, one nearer below", reading(1, 10, 12, 9), 2, 1);
+        serves("policy 1, one nearer above", reading(1, 10, 8, 11), 2, 1);
         check.about("if several requests are equal by it, it is the one with the lowest number");
         serves("policy 1, below and above", reading(1, 10, 9, 11), 1, 2);
         serves("policy 1, above and below", reading(1, 10, 11, 9), 1, 2);
         serves("policy 1, the same cylinder", reading(1, 10, 12, 12, 10, 10), 3, 4, 1, 2);
-        serves("policy 1, one nearer by one", reading(1, 10, 12, 9), 2, 1);
         serves("policy 1, at both ends", reading(1, 31, 63, 0), 2, 1);
         DiskArmSimulator x = reading(1, 10, 10, 10, 10);
         x.cancel(1);
         serves("policy 1, a lower one was cancelled", x, 2, 3);
     }
 
+    /** Request 1 is nearest, until its block is moved to cylinder 63; request 2 is at cylinder 20. */
+    private static void movedWhilePending() {
+        check.about("Distances are those between the arm and the cylinder of the request, and the access time is the "
+            + "number of ticks that an access would take now.");
+        for (int policy = 1; policy <= 3; policy++) {
+            DiskArmSimulator x = reading(policy, 10, 10, 20);
+            check.due(24, "policy " + policy + " before the block is moved", x.next(), 1);
+            x.moveToSpare(at(10));
+            serves("policy " + policy + " when the block is moved", x, 2, 1);
+            check.due(16, "arm()", x.arm(), 63);
+        }
+        for (int policy = 4; policy <= 6; policy++) {
+            DiskArmSimulator x = new DiskArmSimulator();
+            x.setPolicy(policy);
+            x.submit(0, 0, 0);
+            x.submit(0, 1, 0);
+            check.due(24, "policy " + policy + " before the block is moved", x.next(), 0);
+            x.moveToSpare(0);
+            check.due(24, "policy " + policy + " when the block is moved", x.next(), 1);
+        }
+        DiskArmSimulator y = new DiskArmSimulator();
+        y.setPolicy(6);
+        y.submit(0, 0, 180);
+        y.submit(0, 1, 0);
+        y.moveToSpare(0);
+        check.due(24, "a deadline that the spare place just meets", y.next(), 0);
+        y.idle(60);
+        check.due(24, "a deadline that the spare place does not meet", y.next(), 1);
+    }
+
     private static void directionUp() {
+        check.about("Policy 2 has a direction, which is up at first");
+        check.due(17, "isUpward() of a new object", new DiskArmSimulator().isUpward(), true);
         check.about("requests whose cylinder is that of the arm, or lies in the direction, come first, by distance");
         serves("policy 2, the arm's cylinder before one above", reading(2, 10, 11, 10), 2, 1);
         serves("policy 2, one far above before one just below", reading(2, 10, 9, 63), 2, 1);

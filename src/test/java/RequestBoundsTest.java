@@ -20,6 +20,7 @@ public final class RequestBoundsTest {
         twelvePendingAtOnce();
         ninthDirtyBlock();
         orderOfRefusals();
+        states();
         noSuchRequest();
         cancelOfOthers();
         finishOfOthers();
@@ -233,6 +234,18 @@ public final class RequestBoundsTest {
         check.refused(19, "no block beside 8 dirty ones", NO_INDEX, y -> Pasts.dirty(y, 8), y -> y.submit(1, 572, 0));
         check.refused(19, "no kind, no block", NO_ARGUMENT, Pasts::rich, y -> y.submit(2, 572, 0));
         check.refused(19, "no allowance, no block", NO_ARGUMENT, Pasts::rich, y -> y.submit(1, -1, 10000));
+    }
+
+    private static void states() {
+        check.about("It is pending (0), finished (1) or cancelled (2).");
+        DiskArmSimulator x = after(y -> Pasts.reads(y, 3));
+        x.serve();
+        x.cancel(2);
+        check.due(30, "state(0), which was served", x.state(0), 1);
+        check.due(30, "state(1), which waits", x.state(1), 0);
+        check.due(30, "state(2), which was cancelled", x.state(2), 2);
+        Pasts.dirty(x, 1);
+        check.due(30, "state(3), which was finished at once", x.state(3), 1);
     }
 
     /** There are the requests 0 to 8 in the rich past, and none in the other one. */

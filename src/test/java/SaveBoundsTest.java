@@ -15,6 +15,7 @@ public final class SaveBoundsTest {
         apartFromWhatFollows();
         withoutTheText();
         limitsComeBack();
+        directionComesBack();
         clockComesBack();
         check.end();
     }
@@ -201,6 +202,27 @@ public final class SaveBoundsTest {
         full.restore();
         check.throwing(42, "80 requests come back", NO_STATE, () -> full.submit(0, 5, 0));
         check.due(42, "state(79)", full.state(79), 0);
+    }
+
+    private static void directionComesBack() {
+        check.about("Restores the state as it was saved last.");
+        DiskArmSimulator x = new DiskArmSimulator();
+        x.setPolicy(2);
+        x.submit(0, 120, 0);
+        x.serve();
+        x.submit(0, 60, 0);
+        x.save();
+        x.serve();
+        check.due(17, "isUpward() behind a turn", x.isUpward(), false);
+        x.restore();
+        check.due(42, "isUpward() behind restore()", x.isUpward(), true);
+        x.serve();
+        x.submit(0, 120, 0);
+        x.save();
+        x.serve();
+        check.due(17, "isUpward() behind a second turn", x.isUpward(), true);
+        x.restore();
+        check.due(42, "isUpward() behind restore()", x.isUpward(), false);
     }
 
     private static void clockComesBack() {

@@ -89,7 +89,7 @@ public final class TextBoundsTest {
         check.refused(20, "appendCharacter(127) behind 40", NO_ARGUMENT, full, y -> y.appendCharacter(127));
     }
 
-    /** A text without a fault has -1. */
+    /** A text without a fault has -1; all others are refused, and nothing of them is submitted. */
     private static void fault(String text, int position) {
         DiskArmSimulator x = typed(text);
         if (position == -1) {
