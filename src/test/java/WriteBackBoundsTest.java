@@ -100,6 +100,7 @@ public final class WriteBackBoundsTest {
             int dirty = count;
             check.due(28, "dirtyBlocks()", after(y -> Pasts.dirty(y, dirty)).dirtyBlocks(), count);
         }
+        writtenTwice();
         DiskArmSimulator x = after(y -> Pasts.dirty(y, 8));
         check.throwing(19, "a ninth one", NO_STATE, () -> x.submit(1, 1, 0));
         check.due(28, "dirtyBlocks() behind it", x.dirtyBlocks(), 8);
@@ -112,6 +113,18 @@ public final class WriteBackBoundsTest {
             x.submit(1, 100 + block, 0);
         }
         check.due(28, "eight others behind the flush", x.dirtyBlocks(), 8);
+    }
+
+    private static void writtenTwice() {
+        for (int count : new int[] {1, 7, 8}) {
+            DiskArmSimulator x = after(y -> Pasts.dirty(y, count));
+            x.submit(1, 0, 0);
+            x.submit(1, 3 * (count - 1), 0);
+            check.due(28, "dirtyBlocks() when two of " + count + " are written again", x.dirtyBlocks(), count);
+            x.flush();
+            check.due(37, "the accesses of their flush", x.total(3), count);
+            check.due(14, "accessesOf(0)", x.accessesOf(0), 1);
+        }
     }
 
     private static void flushOfNone() {
