@@ -746,6 +746,7 @@ public final class DiskArmSimulator {
                 case LOWEST_BUCKET:
                     return bucketOf(request, drive.clock) * BUCKET_STEP + drive.ticksToAccess(place);
                 default:
+                    // Policy 4, and policy 6 where no order meets the deadlines.
                     return drive.ticksToAccess(place);
             }
         }
